@@ -772,29 +772,30 @@ public final class TruePies {
         }
 
         private boolean readLeaf(Court court) {
-            if (court.leafCount >= MOST_LEAVES) {
+            if (!readTastes(court.leaves, court.leafCount)) {
                 return false;
             }
-            step();
-            if (!isRow(1)) {
-                return false;
-            }
-            court.leaves[court.leafCount] = rowBits();
             court.leafCount++;
-            step();
             return true;
         }
 
         private boolean readGoer(Court court) {
-            if (court.goerCount >= MOST_GOERS) {
+            if (!readTastes(court.goers, court.goerCount)) {
+                return false;
+            }
+            court.goerCount++;
+            return true;
+        }
+
+        private boolean readTastes(int[] rows, int place) {
+            if (place >= rows.length) {
                 return false;
             }
             step();
             if (!isRow(1)) {
                 return false;
             }
-            court.goers[court.goerCount] = rowBits();
-            court.goerCount++;
+            rows[place] = rowBits();
             step();
             return true;
         }
