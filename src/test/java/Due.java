@@ -1,3 +1,5 @@
+import java.util.List;
+
 /** Compares answers with those that are due, and ends a test with exit code 1 if one was wrong. */
 final class Due {
     private int asked = 0;
@@ -9,6 +11,25 @@ final class Due {
             wrong++;
             System.out.println(call + " answered " + got + ", due is " + want);
         }
+    }
+
+    /** Two rows of answers, one a line, are the same. */
+    void same(String name, List<String> got, List<String> want) {
+        asked++;
+        if (!got.equals(want)) {
+            wrong++;
+            System.out.println(name + ": " + firstThatDiffers(got, want));
+        }
+    }
+
+    private static String firstThatDiffers(List<String> got, List<String> want) {
+        int both = Math.min(got.size(), want.size());
+        for (int i = 0; i < both; i++) {
+            if (!got.get(i).equals(want.get(i))) {
+                return got.get(i) + ", due is " + want.get(i);
+            }
+        }
+        return got.size() + " answers, due are " + want.size();
     }
 
     void end() {

@@ -10,7 +10,6 @@ public final class TextTest {
         goodTexts(d);
         faults(d);
         faultChangesNothing(d);
-        readAnew(d);
         d.end();
     }
 
@@ -59,15 +58,6 @@ public final class TextTest {
         d.due("clear() leaves the court", x.leaf(0, 0), 1);
         d.due("court() of the empty text", x.court(), 0);
         d.due("the empty text tells no leaves", x.count(0), 0);
-        Due.typeAll(x, "v abc;");
-        x.clear();
-        Due.typeAll(x, "v a");
-        d.due("letters of old behind a row", x.court(), -13);
-        x.clear();
-        Due.typeAll(x, "n555;");
-        x.clear();
-        Due.typeAll(x, "n5");
-        d.due("letters of old behind a number", x.court(), -12);
     }
 
     private static void fullTexts(Due d) {
@@ -230,39 +220,6 @@ public final class TextTest {
         for (int what = 0; what < last.length; what++) {
             d.due("read four times: count(" + what + ")", x.count(what), last[what]);
         }
-    }
-
-    private static void readAnew(Due d) {
-        TruePies x = Due.told("n5;v ab;v c;v d;g b;g a;y bcdefa;k3 1;");
-        x.comes(0);
-        x.comes(1);
-        x.says(0, 1);
-        x.says(1, 5);
-        x.minutes(2);
-        x.sees(0, 0, 1);
-        x.keep(0);
-        x.keep(1);
-        x.rate(0, 0);
-        Due.typeAll(x, "g f;g c;");
-        d.due("court() anew", x.court(), 2);
-        int[] counts = {0, 2, 0, 0, 3, 0, 0};
-        for (int what = 0; what < counts.length; what++) {
-            d.due("anew: count(" + what + ")", x.count(what), counts[what]);
-        }
-        for (int what = 0; what <= 4; what++) {
-            d.due("anew: now(" + what + ")", x.now(what), 0);
-        }
-        d.due("anew: now(6)", x.now(6), 0);
-        d.due("anew: goer(0, 0)", x.goer(0, 0), 32);
-        for (int g = 0; g < 2; g++) {
-            for (int what = 1; what <= 3; what++) {
-                d.due("anew: goer(" + g + ", " + what + ")", x.goer(g, what), 0);
-            }
-            d.due("anew: back(" + g + ")", x.back(g), -2);
-        }
-        d.due("anew: undo()", x.undo(), -2);
-        d.due("anew: had(0)", x.had(0), 64);
-        d.due("anew: the trace goes on", x.trace(), 1);
     }
 
     private static void answer(Due d, String text, int want) {
