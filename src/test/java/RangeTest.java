@@ -1,8 +1,8 @@
 import java.util.function.Supplier;
 
 /**
- * "BAD (a number is not as told, or there is no such thing)": for every number that a call takes, each value from the
- * least to the greatest is taken, and each one outside is not, far out too (where shorter numbers would come round).
+ * "BAD (a number is not as told, or there is no such thing)": for every number that a call takes, the values from
+ * -300 to 300 and some far out (where shorter numbers would come round) are taken if they are as told, else not.
  */
 public final class RangeTest {
     private static final int BAD = -1, NO = -1000000;
